@@ -296,7 +296,8 @@ public final class DixonEliminator {
         if (noMatrix()) {
             return STATE;
         }
-        return minor.multiplicityOf(form(false), c);
+        form(false);
+        return minor.multiplicityOf(c);
     }
 
     public int extraneous() {
@@ -484,7 +485,10 @@ public final class DixonEliminator {
     }
 
     private boolean noMatrix() {
-        matrix.prepare();
+        if (!matrix.ready) {
+            matrix.measure();
+            matrix.fill();
+        }
         return matrix.side == 0;
     }
 
@@ -519,7 +523,7 @@ public final class DixonEliminator {
 
         static int inverse(int number, int p) {
             for (int candidate = 1; candidate < p; candidate++) {
-                if (residue(number * candidate, p) == 1) {
+                if (number * candidate % p == 1) {
                     return candidate;
                 }
             }
@@ -1019,18 +1023,18 @@ public final class DixonEliminator {
         int m;
         int n;
         int side; // 0 if there is no Dixon matrix
+        boolean ready; // whether what stands here fits the polynomials
         private final Polynomials polynomials;
         private final int[][] entries = new int[SIDE * SIDE][ENTRY];
         private final int[][] cross = new int[POLYNOMIALS][5];
         private final int[] bracket = new int[ENTRY];
-        private boolean prepared;
 
         DixonMatrix(Polynomials polynomials) {
             this.polynomials = polynomials;
         }
 
         void forget() {
-            prepared = false;
+            ready = false;
         }
 
         int[] at(int row, int column) {
@@ -1043,16 +1047,21 @@ public final class DixonEliminator {
             return e >= 0 && e < terms.length ? terms[e] : 0;
         }
 
+        void measure() {
+            m = polynomials.greatestDegree(0);
+            n = polynomials.greatestDegree(1);
+            side = m >= 1 && n >= 1 ? 2 * m * n : 0;
+        }
+
         // The quotient is itself a determinant, whose rows are (F(x, y) - F(a, y)) / (x - a),
         // (F(a, y) - F(a, b)) / (y - b) and F(a, b) with F = (f, g, h): no division is left to do.
         // A power 3 * i + j stands for the coefficients of x^i * y^j. The first row has only those with i > 0,
         // the second row only those with j > 0.
-        void prepare() {
-            if (prepared) {
-                return;
+        void fill() {
+            ready = true;
+            for (int index = 0; index < entries.length; index++) {
+                Arrays.fill(entries[index], 0);
             }
-            prepared = true;
-            measure();
             for (int first = 3; side > 0 && first < 9; first++) {
                 for (int second = 0; second < 9; second++) {
                     if (second % 3 > 0 && multiplyAcross(first, second)) {
@@ -1062,15 +1071,6 @@ public final class DixonEliminator {
                         }
                     }
                 }
-            }
-        }
-
-        private void measure() {
-            m = polynomials.greatestDegree(0);
-            n = polynomials.greatestDegree(1);
-            side = m >= 1 && n >= 1 ? 2 * m * n : 0;
-            for (int index = 0; index < entries.length; index++) {
-                Arrays.fill(entries[index], 0);
             }
         }
 
@@ -1390,7 +1390,7 @@ public final class DixonEliminator {
 
         private void expand(int set) {
             int[] sum = minors[set & minors.length - 1];
-            if (sum == null) {
+            if (sum == null || sum.length == 0) {
                 return;
             }
             Arrays.fill(sum, 0);
@@ -1409,8 +1409,8 @@ public final class DixonEliminator {
             Modulo.reduceAll(sum, polynomials.p);
         }
 
-        int multiplicityOf(int[] terms, int c) {
-            System.arraycopy(terms, 0, quotient, 0, Math.min(terms.length, TERMS));
+        int multiplicityOf(int c) {
+            System.arraycopy(whole, 0, quotient, 0, TERMS);
             return Modulo.strip(quotient, c, polynomials.p);
         }
 
