@@ -26,13 +26,16 @@ public final class DixonEliminator {
     private final Eliminant minor;
 
     public DixonEliminator() {
-        now = new Polynomials();
+        Polynomials polynomials = new Polynomials();
+        DixonMatrix dixonMatrix = new DixonMatrix(polynomials);
+        Ranks allRanks = new Ranks(polynomials, dixonMatrix);
+        now = polynomials;
         past = new History();
         text = new Text();
-        roots = new Roots(now);
-        matrix = new DixonMatrix(now);
-        ranks = new Ranks(now, matrix);
-        minor = new Eliminant(now, matrix, ranks);
+        roots = new Roots(polynomials);
+        matrix = dixonMatrix;
+        ranks = allRanks;
+        minor = new Eliminant(polynomials, dixonMatrix, allRanks);
     }
 
     // ---- polynomials

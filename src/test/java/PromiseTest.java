@@ -51,6 +51,7 @@ public final class PromiseTest {
         digest();
         withoutMatrix();
         orderOfCodes();
+        lastOfRange();
         resultsFollowChanges();
         expect.finish();
     }
@@ -1196,6 +1197,29 @@ public final class PromiseTest {
         expect.due("shift(5)", d.shift(5), BAD);
         expect.due("degreeAt(0, 0, 5)", d.degreeAt(0, 0, 5), BAD);
         expect.due("changes", d.count(4), 1);
+    }
+
+    // The greatest arguments that are allowed.
+    private static void lastOfRange() {
+        DixonEliminator d = linear();
+        expect.due("multiplicity(30)", d.multiplicity(30), 0);
+        expect.due("kernel(30)", d.kernel(30), 0);
+        expect.due("recovered(30, true)", d.recovered(30, true), NONE);
+        expect.due("confirmed(30)", d.confirmed(30), 0);
+        expect.due("rankAt(30)", d.rankAt(30), 2);
+        expect.due("commonRoot(30, HIGH)", d.commonRoot(30, HIGH), NONE);
+        expect.due("eliminantAt(false, 30)", d.eliminantAt(false, 30), 15);
+        expect.due("eliminant(false, 48)", d.eliminant(false, 48), 0);
+        expect.due("entry(1, 1, 6)", d.entry(1, 1, 6), 0);
+        d.shift(3);
+        expect.due("multiplicity(30) of a root", d.multiplicity(30), 1);
+        expect.due("kernel(30) at a root", d.kernel(30), 1);
+        expect.due("recovered(30, true) at a root", d.recovered(30, true), 5);
+        expect.due("commonRoot(30, 0) at a root", d.commonRoot(30, 0), 205);
+        d = planted();
+        d.shift(4);
+        expect.due("confirmed(6) at a root", d.confirmed(6), 1);
+        expect.due("shift(6)", d.shift(6) > 0 ? 1 : 0, 1);
     }
 
     // What was found for one state must not be answered for the next.
