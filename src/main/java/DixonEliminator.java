@@ -788,8 +788,12 @@ public final class DixonEliminator {
             }
         }
 
+        private Polynomials stateIn(int slot) {
+            return slot >= 0 && slot < STATES ? states[slot] : null;
+        }
+
         void remember(Polynomials source) {
-            Polynomials state = states[next];
+            Polynomials state = stateIn(next);
             if (state != null) {
                 state.copyFrom(source);
             }
@@ -803,7 +807,7 @@ public final class DixonEliminator {
             }
             next = next > 0 ? next - 1 : STATES - 1;
             held--;
-            Polynomials state = states[next];
+            Polynomials state = stateIn(next);
             if (state != null) {
                 target.copyFrom(state);
             }

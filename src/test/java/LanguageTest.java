@@ -30,7 +30,9 @@ public final class LanguageTest {
 
     public static void main(String[] args) throws IOException {
         face();
+        insideClasses();
         words(source());
+        methodLengths();
         expect.finish();
     }
 
@@ -68,9 +70,54 @@ public final class LanguageTest {
         expect.due("parameters of the constructor", constructors[0].getParameterCount(), 0);
     }
 
-    private static String source() throws IOException {
+    private static void insideClasses() {
+        Class<?>[] inside = DixonEliminator.class.getDeclaredClasses();
+        expect.holds("at most twelve classes", inside.length < 12);
+        Set<String> faceNames = new TreeSet<>();
+        FACE.forEach(signature -> faceNames.add(signature.substring(0, signature.indexOf('('))));
+        for (Class<?> type : inside) {
+            int modifiers = type.getModifiers();
+            boolean hidden = !Modifier.isPublic(modifiers) && !Modifier.isProtected(modifiers);
+            expect.holds(type + " is hidden and static", hidden && Modifier.isStatic(modifiers));
+            expect.due("classes inside " + type, type.getDeclaredClasses().length, 0);
+            int fields = 0;
+            for (Field field : type.getDeclaredFields()) {
+                boolean constant = Modifier.isStatic(field.getModifiers());
+                expect.holds(field + " is final if static", !constant || Modifier.isFinal(field.getModifiers()));
+                fields += constant ? 0 : 1;
+            }
+            expect.holds(type + " has at most twenty fields", fields <= 20);
+            for (Method method : type.getDeclaredMethods()) {
+                expect.holds(method + " has at most seven parameters", method.getParameterCount() <= 7);
+                boolean open = !Modifier.isPrivate(method.getModifiers());
+                expect.holds(method + " bears no name of the face", open || !faceNames.contains(method.getName()));
+            }
+        }
+    }
+
+    private static String text() throws IOException {
         String path = System.getProperty("project.source", "src/main/java/DixonEliminator.java");
-        String text = new String(Files.readAllBytes(Paths.get(path)), StandardCharsets.UTF_8);
+        return new String(Files.readAllBytes(Paths.get(path)), StandardCharsets.UTF_8);
+    }
+
+    // A method of the class ends at a brace that stands as far in as its head.
+    private static void methodLengths() throws IOException {
+        String[] lines = text().split("\n");
+        for (int at = 0; at < lines.length; at++) {
+            if (!lines[at].matches(" {4,8}(?! )(?!.*\\b(class|new)\\b).*\\) \\{")) {
+                continue;
+            }
+            String end = lines[at].replaceAll("\\S.*", "") + "}";
+            int last = at;
+            while (last < lines.length && !lines[last].equals(end)) {
+                last++;
+            }
+            expect.holds("at most sixty lines of" + lines[at], last - at < 60);
+        }
+    }
+
+    private static String source() throws IOException {
+        String text = text();
         String quiet = text.replaceAll("\"(?:[^\"\\\\\n]|\\\\.)*\"", "\"\"").replaceAll("'(?:[^'\\\\\n]|\\\\.)+'", "' '");
         return quiet.replaceAll("(?s)/\\*.*?\\*/", " ").replaceAll("//[^\n]*", " ");
     }
@@ -82,6 +129,7 @@ public final class LanguageTest {
             expect.holds("the source has no " + word, !matcher.find());
         }
         expect.holds("the source has no method reference", !source.contains("::"));
+        expect.holds("the source has no lambda", !source.contains("->"));
         Matcher imports = Pattern.compile("\\bimport\\s+([^;]+);").matcher(source);
         while (imports.find()) {
             expect.holds("import " + imports.group(1), IMPORTS.contains(imports.group(1).trim()));

@@ -59,33 +59,23 @@ public final class PromiseTest {
     // ---- objects for the tests
 
     private static int write(DixonEliminator d, String text) {
-        d.clearText();
-        int length = 0;
-        for (int at = 0; at < text.length(); at++) {
-            length = d.type(text.charAt(at));
-        }
-        return length;
+        return Given.write(d, text);
     }
 
     private static DixonEliminator of(String f, String g, String h) {
-        DixonEliminator d = new DixonEliminator();
-        String[] texts = {f, g, h};
-        for (int k = 0; k < 3; k++) {
-            write(d, texts[k]);
-            expect.holds("'" + texts[k] + "' is read", d.read(k) >= 0);
-        }
-        d.clearText();
-        return d;
+        return Given.of(f, g, h);
     }
 
-    // Its Dixon polynomial is -10 + 5 * a - y * a + y * t, so its matrix is ((-10, 5), (t, -1)).
     private static DixonEliminator linear() {
-        return of("x - t", "y - 5", "xy - 10");
+        return Given.linear();
     }
 
-    // Its Dixon polynomial is t - 1 - t * y * a, so its eliminant is -t * (t - 1), and only t = 1 has a root, (0, 0).
     private static DixonEliminator partlyExtraneous() {
-        return of("x", "y", "txy + t - 1");
+        return Given.partlyExtraneous();
+    }
+
+    private static DixonEliminator planted() {
+        return Given.planted();
     }
 
     // A call that fails changes nothing, and is not remembered as a change.
@@ -970,15 +960,6 @@ public final class PromiseTest {
             expect.due("kernel without a matrix", new DixonEliminator().kernel(wrong), BAD);
         }
         expect.due("kernel without a matrix", new DixonEliminator().kernel(0), STATE);
-    }
-
-    // A root of degree (2, 1) that the kernel gives back.
-    private static DixonEliminator planted() {
-        DixonEliminator d = new DixonEliminator();
-        d.setPrime(7);
-        d.draw(12345, 2, 1, 1, 1);
-        d.plant(1, 2, 3);
-        return d;
     }
 
     private static void recovered() {
