@@ -24,6 +24,7 @@ public final class HistoryTest {
         refusedWhenFull();
         primesAreRestored();
         resultsAreRestored();
+        stateBeforeIsForgotten();
         lastOfAllCalls();
         objectsAreApart();
         expect.finish();
@@ -328,6 +329,64 @@ public final class HistoryTest {
         h = 31 * h + d.degreeDrops();
         h = 31 * h + d.extraneous();
         return 31 * h + d.count(6);
+    }
+
+    private record State(int p, String f, String g, String h) {
+        void enter(DixonEliminator d) {
+            d.setPrime(p);
+            Given.put(d, 0, f);
+            Given.put(d, 1, g);
+            Given.put(d, 2, h);
+        }
+    }
+
+    private static final State[] STATES = {
+        new State(31, "t2x2 - t2", "t2y2 - t2", "t2x2y2 + t2"),
+        new State(7, "t2x - tx", "t2y - 5ty + 6y", "t2 - 9t + 20"),
+        new State(31, "x2y2", "0", "0"),
+        new State(31, "x - t", "y - 5", "xy - 10"),
+        new State(5, "x2 - t", "x + t2", "3"),
+        new State(31, "x", "y", "txy + t - 1"),
+        new State(11, "x + txy", "y", "1"),
+        new State(31, "tx", "y", "1"),
+        new State(29, "x2y + x - t", "x2 + y - 1", "xy + 3 - t2"),
+    };
+
+    // From each state to each other one and back: no answer may be left from the state before.
+    private static void stateBeforeIsForgotten() {
+        for (State first : STATES) {
+            for (State second : STATES) {
+                DixonEliminator d = new DixonEliminator();
+                first.enter(d);
+                List<Long> before = answers(d);
+                second.enter(d);
+                DixonEliminator fresh = new DixonEliminator();
+                second.enter(fresh);
+                expect.holds("from " + first + " to " + second, answers(d).equals(answers(fresh)));
+                for (int times = 0; times < 4; times++) {
+                    d.undo();
+                }
+                expect.holds("from " + second + " back to " + first, answers(d).equals(before));
+            }
+        }
+    }
+
+    private static List<Long> answers(DixonEliminator d) {
+        List<Long> seen = new ArrayList<>();
+        int[] facts = {d.condition(), d.pivotPoint(), d.rank(), d.rankDrops(), d.selected(true), d.selected(false),
+            d.extraneous(), d.eliminantDegree(false), d.eliminantDegree(true), d.solvable(), d.degreeDrops(), d.size(),
+            d.count(1), d.count(2), d.count(5), d.count(6), d.entry(1, 0, 1)};
+        for (int fact : facts) {
+            seen.add((long) fact);
+        }
+        for (int t = 0; t < 5; t++) {
+            int[] here = {d.rankAt(t), d.kernel(t), d.recovered(t, false), d.recovered(t, true), d.confirmed(t),
+                d.multiplicity(t), d.commonRoots(t), d.eliminantAt(false, t), d.eliminantAt(true, t), d.entryAt(0, 1, t)};
+            for (int fact : here) {
+                seen.add((long) fact);
+            }
+        }
+        return seen;
     }
 
     // The answers are promised up to the 512th call.
