@@ -24,6 +24,9 @@ public final class BoundaryTest {
         rankAtTheLastNumberAboveOthers();
         rankOfValuesNotOfPolynomials();
         selectionAtThePivotPoint();
+        lastColumnAlone();
+        lastRowAlone();
+        selectionOfSparseMatrices();
         conditionOverAllNumbers();
         conditionMakesRootsZeros();
         greatestEliminant();
@@ -397,6 +400,68 @@ public final class BoundaryTest {
         expect.due("the row that is 0 at 1 and at 0", d.selected(true), 2);
         expect.due("the eliminant is t", d.multiplicity(0), 1);
         expect.due("and no more", d.eliminantDegree(false), 1);
+    }
+
+    // The Dixon polynomial is (y + y^3) * x * a^3 * b: the rows 3 and 7 have their only entry in the last column.
+    private static void lastColumnAlone() {
+        DixonEliminator d = Given.of("x + xy2", "x2y", "x2y2");
+        expect.due("row 3 of the last column", d.entry(3, 7, 0), 1);
+        expect.due("row 7 of the last column", d.entry(7, 7, 0), 1);
+        expect.due("selected rows of the last column alone", d.selected(true), 1 << 3);
+        expect.due("the last column alone", d.selected(false), 1 << 7);
+        rankOneOfEight("the last column alone: ", d);
+        expect.due("1", d.eliminant(false, 0), 1);
+    }
+
+    // With x and y exchanged, it is -(a + a^3) * b * x * y^3.
+    private static void lastRowAlone() {
+        DixonEliminator d = Given.of("y + x2y", "xy2", "x2y2");
+        expect.due("column 5 of the last row", d.entry(7, 5, 0), 30);
+        expect.due("column 7 of the last row", d.entry(7, 7, 0), 30);
+        expect.due("the last row alone", d.selected(true), 1 << 7);
+        expect.due("selected columns of the last row alone", d.selected(false), 1 << 5);
+        rankOneOfEight("the last row alone: ", d);
+        expect.due("-1", d.eliminant(false, 0), 30);
+    }
+
+    private static void rankOneOfEight(String name, DixonEliminator d) {
+        expect.due(name + "rank()", d.rank(), 1);
+        expect.due(name + "pivotPoint()", d.pivotPoint(), 0);
+        expect.due(name + "rankDrops()", d.rankDrops(), 0);
+        expect.due(name + "condition()", d.condition(), 0);
+        expect.due(name + "eliminantDegree(false)", d.eliminantDegree(false), 0);
+        for (int t : new int[] {0, 30}) {
+            expect.due(name + "rankAt(" + t + ")", d.rankAt(t), 1);
+            expect.due(name + "kernel(" + t + ")", d.kernel(t), 7);
+            expect.due(name + "recovered(" + t + ", true)", d.recovered(t, true), NONE);
+        }
+    }
+
+    // Few terms leave rows and columns that depend on one another at any place, also on the last row and column.
+    private static void selectionOfSparseMatrices() {
+        int regular = 0;
+        for (int seed = 1; seed <= 120; seed++) {
+            int thin = 2 + seed % 8;
+            DixonEliminator d = new DixonEliminator();
+            Reference r = new Reference();
+            expect.due("draw", d.draw(seed, 2, 2, 1, thin), r.draw(seed, 2, 2, 1, thin));
+            String name = "draw(" + seed + ", 2, 2, 1, " + thin + "): ";
+            expect.due(name + "rank()", d.rank(), r.rank());
+            expect.due(name + "selected rows", d.selected(true), r.selected(true));
+            expect.due(name + "selected columns", d.selected(false), r.selected(false));
+            expect.due(name + "condition()", d.condition(), r.condition());
+            if (d.rank() >= 0) {
+                regular += d.rank() == d.size() ? 1 : 0;
+                expect.due(name + "as many rows as the rank says", Integer.bitCount(d.selected(true)), d.rank());
+                expect.due(name + "as many columns", Integer.bitCount(d.selected(false)), d.rank());
+                expect.holds(name + "their determinant is not 0", d.eliminantAt(false, d.pivotPoint()) != 0);
+                for (int t = 0; t < 31; t += 6) {
+                    expect.due(name + "rankAt(" + t + ")", d.rankAt(t), r.rankAt(t));
+                    expect.due(name + "kernel(" + t + ")", d.kernel(t), d.size() - r.rankAt(t));
+                }
+            }
+        }
+        expect.holds("most of them are singular, " + regular + " are not", regular < 40);
     }
 
     // The Dixon polynomial of the first is 1 + t * y: without row 0 the pivot point has a smaller rank than others.
